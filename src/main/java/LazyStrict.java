@@ -126,8 +126,12 @@ public final class LazyStrict {
 
     public int compile() {
         if (!compiled) {
-            translate();
             compiled = true;
+            fault.clear();
+            tokens.split(text, size, fault);
+            reader.readProgram();
+            typing.check();
+            analysis.analyse(fault);
         }
         return fault.isTold() ? -fault.number : table.size;
     }
@@ -231,16 +235,6 @@ public final class LazyStrict {
         compiled = false;
         given = 0;
         machine.counts.clear();
-    }
-
-    private void translate() {
-        fault.clear();
-        tokens.split(text, size, fault);
-        reader.readProgram();
-        typing.check();
-        if (!fault.isTold()) {
-            analysis.analyse();
-        }
     }
 
     private boolean isUsable() {
@@ -1093,7 +1087,7 @@ public final class LazyStrict {
         }
 
         static int takenBy(int type) {
-            if (isBase(type)) {
+            if (type < FIRST_OF_ONE) {
                 return 0;
             }
             return type < FIRST_OF_TWO ? 1 : 2;
@@ -1143,13 +1137,21 @@ public final class LazyStrict {
             this.table = table;
         }
 
-        void analyse() {
-            since.clear();
-            lastChange.clear();
-            round = 0;
+        void analyse(Fault fault) {
+            if (fault.isTold()) {
+                return;
+            }
+            clear();
             boolean changed = true;
             for (int turn = 0; turn <= MOST_FUNCTIONS * MOST_CASES && changed; turn++) {
-                changed = doRound();
+                round++;
+                changed = false;
+                for (int f = 0; f < table.size; f++) {
+                    if (mayChange(f) && raiseCases(f)) {
+                        lastChange.put(f, round);
+                        changed = true;
+                    }
+                }
             }
             for (int f = 0; f < table.size; f++) {
                 judgeParameters(f);
@@ -1173,16 +1175,14 @@ public final class LazyStrict {
             return count;
         }
 
-        private boolean doRound() {
-            round++;
-            boolean changed = false;
+        private void clear() {
+            round = 0;
             for (int f = 0; f < table.size; f++) {
-                if (mayChange(f) && raiseCases(f)) {
-                    lastChange.put(f, round);
-                    changed = true;
+                lastChange.put(f, 0);
+                for (int number = 0; number < table.cases.at(f); number++) {
+                    since.put(f * MOST_CASES + number, 0);
                 }
             }
-            return changed;
         }
 
         /** Only what a function names can change it: one that saw no change keeps its values. */
@@ -1297,24 +1297,20 @@ public final class LazyStrict {
                 case 1:
                     return pointOfCase(g, 2 * number) + pointOfCase(g, 2 * number + 1);
                 default:
-                    return findShape(g, 4 * number);
+                    return findShape(pointOfCase(g, 4 * number), pointOfCase(g, 4 * number + 1),
+                        pointOfCase(g, 4 * number + 2), pointOfCase(g, 4 * number + 3));
             }
         }
 
-        /** The shape of a function that has two bases to come, by its cases with these. */
-        private int findShape(int g, int number) {
-            boolean asFirst = pointOfCase(g, number + 2) == 1;
-            boolean asSecond = pointOfCase(g, number + 1) == 1;
-            if (pointOfCase(g, number) == 1) {
+        /** The shape of what has these points for two that are to come: 0 0, 0 1, 1 0, 1 1. */
+        private static int findShape(int none, int second, int first, int both) {
+            if (none == 1) {
                 return 5;
             }
-            if (asFirst && asSecond) {
-                return 4;
+            if (first == 1) {
+                return second == 1 ? 4 : 2;
             }
-            if (asFirst || asSecond) {
-                return asFirst ? 2 : 3;
-            }
-            return pointOfCase(g, number + 3);
+            return second == 1 ? 3 : both;
         }
 
         private static int shapeOfOne(int shape, int point) {
@@ -1475,6 +1471,10 @@ public final class LazyStrict {
         private boolean isQuick;
         private int end;
         private long answer;
+        // Where a list is gone along: the cell, whether its first part is wanted, what is worked for it.
+        private int cell;
+        private boolean isInCell;
+        private int forced;
 
         Machine(Tokens tokens, Tree tree, Functions table) {
             this.tokens = tokens;
@@ -1489,65 +1489,70 @@ public final class LazyStrict {
             limit = steps;
             isQuick = quick;
             end = GOING;
+            forced = NONE;
+            isInCell = false;
             for (int i = 0; i < table.parameters.at(f); i++) {
                 called.put(i, Heap.hold(Heap.TAG_NUMBER, arguments.at(i)));
             }
             enter(f);
-            workAll();
-            if (end == GOING && table.base.at(f) == LIST_TYPE) {
-                goAlong();
-            }
-            finishRun(table.base.at(f) == INT_TYPE);
-            return end;
-        }
-
-        private void finishRun(boolean isInt) {
-            if (end == GOING) {
-                end = WELL;
-                counts.put(RESULT, isInt ? Heap.numberOf(answer) : 0);
+            for (int tick = 0; tick < MOST_TICKS && end == GOING; tick++) {
+                if (depth > 0) {
+                    workOn(nodes.at(depth - 1), stages.at(depth - 1));
+                } else if (table.base.at(f) == INT_TYPE) {
+                    end = WELL;
+                    counts.put(RESULT, Heap.numberOf(answer));
+                } else {
+                    goAlong();
+                }
             }
             counts.put(PUT_OFF, heap.putOff);
             counts.put(NOT_DONE, heap.putOff - heap.done);
             counts.put(CELLS, heap.cells);
+            return end;
         }
 
+        /** Goes one part further along the list: the answer is its next cell, or a cell's first part. */
         private void goAlong() {
-            long list = answer;
-            for (int i = 0; i < MOST_GONE && end == GOING; i++) {
-                if (Heap.tagOf(list) != Heap.TAG_CELL) {
-                    counts.put(NIL_BEHIND, 1);
-                    return;
-                }
-                int cell = Heap.numberOf(list);
-                long number = force(heap.firstPart.at(cell));
-                if (end == GOING) {
-                    elements.put(i, Heap.numberOf(number));
-                    counts.put(GONE_ALONG, i + 1);
-                }
-                if (end == GOING && i + 1 < MOST_GONE) {
-                    list = force(heap.secondPart.at(cell));
-                }
+            int gone = counts.at(GONE_ALONG);
+            if (forced != NONE) {
+                heap.settle(forced, answer);
+                forced = NONE;
+            }
+            if (!isInCell) {
+                stepInto(answer);
+                return;
+            }
+            isInCell = false;
+            elements.put(gone, Heap.numberOf(answer));
+            counts.put(GONE_ALONG, gone + 1);
+            if (gone + 1 == MOST_GONE) {
+                end = WELL;
+            } else {
+                force(heap.secondPart.at(cell));
             }
         }
 
-        private long force(long held) {
-            if (Heap.tagOf(held) != Heap.TAG_PUT_OFF) {
-                return held;
+        private void stepInto(long list) {
+            if (Heap.tagOf(list) != Heap.TAG_CELL) {
+                counts.put(NIL_BEHIND, 1);
+                end = WELL;
+                return;
             }
+            isInCell = true;
+            cell = Heap.numberOf(list);
+            force(heap.firstPart.at(cell));
+        }
+
+        /** The answer is what a cell's part holds, or will be it when what was put off is worked. */
+        private void force(long held) {
             int index = Heap.numberOf(held);
-            if (heap.state.at(index) != Heap.DONE) {
+            if (Heap.tagOf(held) != Heap.TAG_PUT_OFF) {
+                answer = held;
+            } else if (heap.state.at(index) == Heap.DONE) {
+                answer = heap.kept.at(index);
+            } else {
+                forced = index;
                 beginPutOff(index);
-                workAll();
-                if (end == GOING) {
-                    heap.settle(index, answer);
-                }
-            }
-            return heap.kept.at(index);
-        }
-
-        private void workAll() {
-            for (int tick = 0; tick < MOST_TICKS && depth > 0 && end == GOING; tick++) {
-                workOn(nodes.at(depth - 1), stages.at(depth - 1));
             }
         }
 
@@ -1561,7 +1566,7 @@ public final class LazyStrict {
                 frames.put(depth, frame);
                 stages.put(depth, 0);
                 depth++;
-                counts.add(STEPS, 1);
+                counts.put(STEPS, counts.at(STEPS) + 1);
                 counts.put(DEEPEST, Math.max(depth, counts.at(DEEPEST)));
             }
         }
@@ -1600,7 +1605,11 @@ public final class LazyStrict {
                     end = DIVERGES;
                     break;
                 case LOCAL:
-                    workLocal(node, stage);
+                    if (tree.atoms.at(node) > 0) {
+                        callHeld(node);
+                    } else {
+                        workLocal(node, stage);
+                    }
                     break;
                 case CALL:
                     workCall(node, stage);
@@ -1636,8 +1645,6 @@ public final class LazyStrict {
             if (stage == 1) {
                 heap.settle(index, answer);
                 finish(answer);
-            } else if (tree.atoms.at(node) > 0) {
-                callHeld(node, held);
             } else if (Heap.tagOf(held) != Heap.TAG_PUT_OFF) {
                 finish(held);
             } else if (heap.state.at(index) == Heap.DONE) {
@@ -1756,10 +1763,10 @@ public final class LazyStrict {
             }
         }
 
-        private void callHeld(int node, long held) {
-            int count = sizeGot(held);
+        private void callHeld(int node) {
+            long from = heap.locals.at(frame() + tree.target.at(node));
+            int count = sizeGot(from);
             int atoms = tree.atoms.at(node);
-            long from = held;
             int behind = count;
             for (int turn = 0; turn < MOST_PARAMETERS && Heap.tagOf(from) == Heap.TAG_PARTIAL; turn++) {
                 int partial = Heap.numberOf(from);
