@@ -12,6 +12,8 @@ import java.util.Set;
  */
 public final class ModelTest {
     private static int wrong = 0;
+    private static LazyStrict used = new LazyStrict();
+    private static int usedSize = 0;
     private static final Map<String, Integer> SEEN = new HashMap<>();
 
     public static void main(String[] args) {
@@ -59,8 +61,15 @@ public final class ModelTest {
         }
     }
 
-    private static LazyStrict fed(String text) {
-        LazyStrict lazy = new LazyStrict();
+    /** An object that had other texts before, mostly: nothing of these may stay. */
+    private static LazyStrict fed(String text, Random random) {
+        if (random.nextInt(10) == 0) {
+            used = new LazyStrict();
+            usedSize = 0;
+        }
+        LazyStrict lazy = used;
+        due(text, "wipe()", lazy.wipe(), usedSize);
+        usedSize = text.length();
         int at = 0;
         while (at < text.length()) {
             int n = Math.min(8, text.length() - at);
@@ -79,7 +88,7 @@ public final class ModelTest {
             return;
         }
         Model model = new Model(text);
-        LazyStrict lazy = fed(text);
+        LazyStrict lazy = fed(text, random);
         seen("compile " + (model.fault > 0 ? -model.fault : 0));
         due(text, "compile()", lazy.compile(), model.fault > 0 ? -model.fault : model.functions.size());
         due(text, "place()", lazy.place(), model.fault > 0 ? model.place : -1);
@@ -1355,6 +1364,8 @@ public final class ModelTest {
                 + " : int = x 1 (y 2 (z 3 (w 4)));");
             texts.add("a (x : int -> int -> int) (y : int -> int -> int) (z : int -> int -> int) (w : int) (v : int)"
                 + " : int = x 1 (y 2 (z 3 v));");
+            texts.add("b : int = 1; a (x : int -> int -> int) (y : int -> int -> int) (z : int -> int -> int) (w : int -> int)"
+                + " (v : int) : int = x 1 (y 2 (z 3 v));");
             texts.add("a (x : int -> int -> int) (y : int -> int -> int) (z : int -> int) (w : int) (v : int)"
                 + " (u : int) : int = x w (y v (z u));"
                 + "b (f : int -> int) (g : int -> int) (h : int -> int) (i : int) (j : int) (k : int) (l : int)"

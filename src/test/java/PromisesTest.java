@@ -12,6 +12,7 @@ public final class PromisesTest {
         promise1();
         promise2();
         promise3();
+        manyTexts();
         promise4();
         faults1();
         faults2();
@@ -229,6 +230,40 @@ public final class PromisesTest {
         due("place() behind wipe", x.place(), LazyStrict.NONE);
     }
 
+    /** One object with one text behind the other: nothing of an older text may stay. */
+    private static void manyTexts() {
+        promise = "promise 3, many texts";
+        LazyStrict x = compiled("f (x : int) (y : int) : int = let a : int = x + y in let b : int = a in b; g : int = f 1 2;");
+        x.run(1, 100, true);
+        x.wipe();
+        feed(x, "f (x : int) (y : int) : int = let a : int = 1 in let b : int = 2 in 3; g : int = error; h : int -");
+        due("compile() of what ends with -", x.compile(), -2);
+        due("place()", x.place(), 96);
+        x.wipe();
+        feed(x, "f (x : int) (y : int) : int = let a : int = 1 in let b : int = 2 in 3; g : int = error;");
+        due("compile()", x.compile(), 2);
+        due("rounds()", x.rounds(), 2);
+        dueValues(x, 0, "1111");
+        dueValues(x, 1, "0");
+        due("parameter(0, 0, 1)", x.parameter(0, 0, 1), 0);
+        due("function(0, 5)", x.function(0, 5), 0);
+        x.wipe();
+        feed(x, "h -> int");
+        x.wipe();
+        feed(x, "h -");
+        due("compile()", x.compile(), -2);
+        due("place()", x.place(), 2);
+        x.wipe();
+        feed(x, "f : int = 123;");
+        x.wipe();
+        feed(x, "f : int = 12");
+        due("compile()", x.compile(), -2);
+        feed(x, ";");
+        due("compile()", x.compile(), 1);
+        due("run", x.run(0, 10, false), 1);
+        due("told(5)", x.told(5), 12);
+    }
+
     private static void promise4() {
         promise = "promise 4";
         dueFine("", 0);
@@ -240,6 +275,7 @@ public final class PromisesTest {
         dueFine("f (x : list) : int = case x of empty -> 0 | h : t -> h - 1 * f t / 2;", 1);
         dueFine("f : int = let a : int = if 1 then 2 else 3 in let b : list = nil in a = a;", 1);
         dueFine("int1 : int = lets; lets : int = 1; nilx : list = cons (1) (nil);", 3);
+        dueFine("z9 : int = y0; y0 : int = z9;", 2);
         dueFine("f : int = a1b2c3d4e5f6 ; a1b2c3d4e5f6 : int = 002147483647;", 2);
         LazyStrict x = compiled(TWO);
         x.argument(4);
@@ -342,6 +378,18 @@ public final class PromisesTest {
         dueFine("f : int = " + "let a : int = 1 in ".repeat(29) + "1;", 1);
         dueFault("f : int = " + "let a : int = 1 in ".repeat(30) + "1;", 3, 10 + 29 * 19 + 14);
         dueFault("f (l : list) : int = " + "(".repeat(29) + "case l of", 3, 55);
+        dueFine("f (l : list) : int = " + "(".repeat(28) + "case l of empty -> 1 | h : t -> 2" + ")".repeat(28) + ";", 1);
+        dueFine("f (l : list) : int = " + "(".repeat(28) + "if 1 then 2 else 3" + ")".repeat(28) + ";", 1);
+        String empties = "case nil of empty -> ".repeat(13) + "(".repeat(16);
+        dueFine("f : int = " + empties + "1" + ")".repeat(16) + " | h : t -> 1".repeat(13) + ";", 1);
+        dueFault("f : int = " + empties + "(1" + ")".repeat(17) + " | h : t -> 1".repeat(13) + ";", 3,
+            10 + empties.length() + 1);
+        String rests = "case nil of empty -> 1 | h : t -> ".repeat(13) + "(".repeat(16);
+        dueFine("f : int = " + rests + "1" + ")".repeat(16) + ";", 1);
+        dueFault("f : int = " + rests + "(1" + ")".repeat(17) + ";", 3, 10 + rests.length() + 1);
+        String thens = "if 1 then ".repeat(29);
+        dueFine("f : int = " + thens + "1" + " else 1".repeat(29) + ";", 1);
+        dueFault("f : int = " + thens + "(1)" + " else 1".repeat(29) + ";", 3, 10 + thens.length() + 1);
         dueFine("f : int = 1" + "+1".repeat(10) + ";", 1);
         dueFault("f : int = 1" + "+1".repeat(11) + ";", 3, 31);
         dueFault("f : int = 1" + "+1".repeat(10) + "-;", 3, 31);
@@ -469,6 +517,9 @@ public final class PromisesTest {
         dueFault(g + "f : int = g (cons x x);", 7, n + 3);
         // A name with fewer atoms, whose left parameters are no bases.
         dueFault("a (x : int) (y : int -> int) : int = 1; b (f : int -> int) : int = b (a 1);", 7, 70);
+        dueFault("a (x : int) (y : int) (z : int -> int) : int = 1; b (f : int -> int -> int) : int = b (a 1);", 7, 87);
+        dueFault("a (x : int) (y : int -> int) (z : int) : int = 1; b (f : int -> int -> int) : int = b (a 1);", 7, 87);
+        dueFault("a (x : int) (y : int) (z : list) : int = 1; b (f : int -> int -> int) : int = b (a 1);", 7, 81);
         dueFine("f : int = error; g : list = error; h : int = if error then error else error;", 3);
         dueFine("f (x : int -> int -> int) (y : list) : int = g (x 1) + f x y; g (x : int -> int) : int = f h nil;"
             + "h (a : int) (b : int) : int = a;", 3);
@@ -526,8 +577,8 @@ public final class PromisesTest {
         String one = "g : int = 1; ";
         LazyStrict x = compiled(one + "f (a : int) (b : list -> int) (c : int -> int -> int) : list ="
             + " let u : int = let v : int = a in v + 1 in let w : list = nil in"
-            + " case w of empty -> cons u w | h : t -> let z : int = h in t;");
-        int[] want = {3, 1, 36, 9, 4, 2, one.length()};
+            + " case w of empty -> cons u w | h : t -> let z : int = h in let y : int = z in t;");
+        int[] want = {3, 1, 36, 10, 5, 2, one.length()};
         for (int what = 0; what < 7; what++) {
             due("function(1, " + what + ")", x.function(1, what), want[what]);
         }
@@ -669,7 +720,6 @@ public final class PromisesTest {
         due("strict a of g", y.isStrict(other.indexOf("let a : int = 1")), 1);
         due("strict a of h", y.isStrict(other.indexOf("let a : list")), 1);
         due("strict b of h", y.isStrict(other.indexOf("let b : int = case")), 1);
-        // It may stand at the first place that a let can have.
         due("a let within a let's first part", compiled("f:int=let a:int=let b:int=1 in b in 2;").isStrict(16), 1);
         due("a let that is not strict", compiled("f:int=let a:int=let b:int=1 in b in 2;").isStrict(6), 0);
     }
@@ -761,6 +811,8 @@ public final class PromisesTest {
         due("= and <", numbered("f (a : int) (b : int) : int = (a = b) + 2 * (a < b) + 4 * (b < a);", 0, -1, 1), 2);
         due("= and <", numbered("f (a : int) (b : int) : int = (a = b) + 2 * (a < b) + 4 * (b < a);", 0, 3, 3), 1);
         due("innermost local", numbered("f (a : int) : int = let a : int = a + 1 in let a : int = a * 2 in a;", 0, 4), 10);
+        due("empty", numbered("f : int = case nil of empty -> 5 | h : t -> h;", 0), 5);
+        due("not empty", numbered("f : int = case cons 6 nil of empty -> 5 | h : t -> h;", 0), 6);
         due("both names the same", numbered("f : int = case cons 1 (cons 2 nil) of empty -> 0"
             + " | a : a -> case a of empty -> 3 | b : c -> b;", 0), 2);
         due("a local before a function", numbered("f (g : int) : int = g; g : int = 5;", 0, 6), 6);
