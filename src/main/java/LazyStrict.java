@@ -676,12 +676,13 @@ public final class LazyStrict {
         }
 
         private int readBase() {
-            if (kind() == LIST) {
-                pass(LIST);
-                return LIST_TYPE;
+            int what = kind();
+            if (what == INT || what == LIST) {
+                at++;
+            } else {
+                tell(FAULT_GRAMMAR);
             }
-            pass(INT);
-            return INT_TYPE;
+            return what == LIST ? LIST_TYPE : INT_TYPE;
         }
 
         private int readLocal(int type) {

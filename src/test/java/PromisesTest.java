@@ -248,11 +248,22 @@ public final class PromisesTest {
         due("parameter(0, 0, 1)", x.parameter(0, 0, 1), 0);
         due("function(0, 5)", x.function(0, 5), 0);
         x.wipe();
-        feed(x, "h -> int");
+        // Octets of an older text stand behind the end of the new one, and don't count.
+        feed(x, "f : int = 1" + "-1".repeat(10) + "->");
+        due("an arrow", x.compile(), -2);
         x.wipe();
-        feed(x, "h -");
-        due("compile()", x.compile(), -2);
-        due("place()", x.place(), 2);
+        feed(x, "f : int = 1" + "-1".repeat(10) + "-");
+        due("an eleventh -", x.compile(), -3);
+        x.wipe();
+        feed(x, "abcdefghijklm");
+        x.wipe();
+        feed(x, "abcdefghijkl");
+        due("a name of twelve", x.compile(), -2);
+        x.wipe();
+        feed(x, "f : int = 21474836471");
+        x.wipe();
+        feed(x, "f : int = 2147483647");
+        due("a number at the end", x.compile(), -2);
         x.wipe();
         feed(x, "f : int = 123;");
         x.wipe();
