@@ -23,6 +23,9 @@ public final class ModelTest {
         for (String text : Limits.texts()) {
             compare(text, random);
         }
+        for (String text : Limits.oneTokenOff()) {
+            compare(text, random);
+        }
         for (int i = 0; i < rounds; i++) {
             Maker maker = new Maker(random);
             String text = maker.program();
@@ -1371,6 +1374,28 @@ public final class ModelTest {
                 + "b (f : int -> int) (g : int -> int) (h : int -> int) (i : int) (j : int) (k : int) (l : int)"
                 + " : int = if f i then g (h j) else b g h f k j i l;");
             runs(texts);
+            return texts;
+        }
+
+        /** Each TOKEN of a text that has all forms left out, and each kind of TOKEN put in or in its stead. */
+        static List<String> oneTokenOff() {
+            String[] whole = ("f ( a : int ) ( g : int -> list -> int ) : list = let c : int = g 1 nil * a - 2 in"
+                + " if a = c then case cons a nil of empty -> nil | h : t -> cons ( h / 1 ) t else error ;"
+                + " k : int = 1 < ( k ) ;").split(" ");
+            String[] kinds = ("int list let in if then else case of empty nil cons error ( ) : = ; -> | + - * / <"
+                + " a f 7 # 2147483648 abcdefghijklm").split(" ");
+            List<String> texts = new ArrayList<>();
+            for (int i = 0; i <= whole.length; i++) {
+                String before = String.join(" ", java.util.Arrays.asList(whole).subList(0, i));
+                String here = i < whole.length ? whole[i] : "";
+                String behind = i < whole.length
+                    ? String.join(" ", java.util.Arrays.asList(whole).subList(i + 1, whole.length)) : "";
+                texts.add(before + " " + behind);
+                for (String kind : kinds) {
+                    texts.add(before + " " + kind + " " + behind);
+                    texts.add(before + " " + kind + " " + here + " " + behind);
+                }
+            }
             return texts;
         }
 

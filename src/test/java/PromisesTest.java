@@ -1,12 +1,8 @@
-import java.util.function.IntSupplier;
-
 /** Each promise of the document by itself: ordinary calls, the edges that it names, wrong calls. */
-public final class PromisesTest {
+public final class PromisesTest extends Check {
     private static final String TWO = "f (x : int) (y : int) : int = if x then x else y; g : int = f 3 error;";
     private static final String UPTO =
         "upto (a : int) (b : int) : list = if b < a then nil else cons a (upto (a + 1) b);";
-    private static int wrong = 0;
-    private static String promise = "";
 
     public static void main(String[] args) {
         promise1();
@@ -40,122 +36,13 @@ public final class PromisesTest {
         promise14();
         lists();
         promise15();
-        if (wrong > 0) {
-            System.out.println(wrong + " answers are not as due");
-            System.exit(1);
-        }
-    }
-
-    // ---------------------------------------------------------------- helpers
-
-    private static void due(String what, long got, long want) {
-        if (got != want) {
-            wrong++;
-            System.out.println(promise + ": " + what + " answered " + got + ", due is " + want);
-        }
-    }
-
-    private static void dueThrow(String what, Class<? extends RuntimeException> want, IntSupplier call) {
-        String got;
-        try {
-            got = "answered " + call.getAsInt();
-        } catch (RuntimeException e) {
-            if (e.getClass() == want) {
-                return;
-            }
-            got = "threw " + e;
-        }
-        wrong++;
-        System.out.println(promise + ": " + what + " " + got + ", due is " + want.getSimpleName());
-    }
-
-    private static void outside(String what, IntSupplier call) {
-        dueThrow(what, IndexOutOfBoundsException.class, call);
-    }
-
-    private static void illegal(String what, IntSupplier call) {
-        dueThrow(what, IllegalArgumentException.class, call);
-    }
-
-    private static LazyStrict feed(LazyStrict x, String text) {
-        for (int at = 0; at < text.length(); at += 8) {
-            int n = Math.min(8, text.length() - at);
-            long octets = 0;
-            for (int i = n - 1; i >= 0; i--) {
-                octets = octets << 8 | text.charAt(at + i) & 255;
-            }
-            x.feed(n, octets);
-        }
-        return x;
-    }
-
-    private static LazyStrict fed(String text) {
-        return feed(new LazyStrict(), text);
-    }
-
-    /** A text that must have no fault. */
-    private static LazyStrict compiled(String text) {
-        LazyStrict x = fed(text);
-        if (x.compile() < 0) {
-            wrong++;
-            System.out.println(promise + ": fault " + -x.compile() + " at " + x.place() + " in " + text);
-        }
-        return x;
-    }
-
-    private static void dueFault(String text, int number, int place) {
-        LazyStrict x = fed(text);
-        due("compile() of " + text, x.compile(), -number);
-        due("place() of " + text, x.place(), place);
-        due("functions() of " + text, x.functions(), 0);
-        due("rounds() of " + text, x.rounds(), 0);
-    }
-
-    private static void dueFine(String text, int functions) {
-        LazyStrict x = fed(text);
-        due("compile() of " + text, x.compile(), functions);
-        due("place() of " + text, x.place(), LazyStrict.NONE);
-    }
-
-    private static void dueTold(LazyStrict x, String what, int... want) {
-        for (int i = 0; i < want.length; i++) {
-            due(what + ", told(" + i + ")", x.told(i), want[i]);
-        }
-    }
-
-    private static void dueValues(LazyStrict x, int f, String want) {
-        due("cases of function " + f, x.function(f, 2), want.length());
-        for (int i = 0; i < want.length(); i++) {
-            due("value(" + f + ", " + i + ")", x.value(f, i), want.charAt(i) - '0');
-        }
-    }
-
-    private static int numbered(String text, int f, int... arguments) {
-        LazyStrict x = compiled(text);
-        for (int v : arguments) {
-            x.argument(v);
-        }
-        due("run of " + text, x.run(f, 50000, false), 1);
-        return x.told(5);
-    }
-
-    private static void dueNothing(LazyStrict x) {
-        due("functions()", x.functions(), 0);
-        due("rounds()", x.rounds(), 0);
-        due("place()", x.place(), LazyStrict.NONE);
-        due("isStrict(0)", x.isStrict(0), LazyStrict.NONE);
-        dueTold(x, "nothing was run", 0, 0, 0, 0, 0, 0, 0, 0, 0, 0);
-        outside("element(0)", () -> x.element(0));
-        outside("function(0, 0)", () -> x.function(0, 0));
-        outside("parameter(0, 0, 0)", () -> x.parameter(0, 0, 0));
-        outside("value(0, 0)", () -> x.value(0, 0));
-        outside("run(0, 10, false)", () -> x.run(0, 10, false));
+        end();
     }
 
     // ---------------------------------------------------------------- texts
 
     private static void promise1() {
-        promise = "promise 1";
+        about = "promise 1";
         dueNothing(new LazyStrict());
         due("NONE", LazyStrict.NONE, -1);
         due("wipe()", new LazyStrict().wipe(), 0);
@@ -168,7 +55,7 @@ public final class PromisesTest {
     }
 
     private static void promise2() {
-        promise = "promise 2";
+        about = "promise 2";
         LazyStrict x = new LazyStrict();
         due("feed(2)", x.feed(2, 0x7f7f7f7f7f7f0000L | 'f' | ':' << 8), 2);
         due("feed(8)", x.feed(8, 0x3b313d20746e6920L), 10);
@@ -214,7 +101,7 @@ public final class PromisesTest {
     }
 
     private static void promise3() {
-        promise = "promise 3";
+        about = "promise 3";
         LazyStrict x = ran();
         due("wipe()", x.wipe(), TWO.length());
         dueNothing(x);
@@ -232,7 +119,7 @@ public final class PromisesTest {
 
     /** One object with one text behind the other: nothing of an older text may stay. */
     private static void manyTexts() {
-        promise = "promise 3, many texts";
+        about = "promise 3, many texts";
         LazyStrict x = compiled("f (x : int) (y : int) : int = let a : int = x + y in let b : int = a in b; g : int = f 1 2;");
         x.run(1, 100, true);
         x.wipe();
@@ -276,7 +163,7 @@ public final class PromisesTest {
     }
 
     private static void promise4() {
-        promise = "promise 4";
+        about = "promise 4";
         dueFine("", 0);
         dueFine(" \n \n", 0);
         dueFine("f:int=1;", 1);
@@ -303,7 +190,7 @@ public final class PromisesTest {
     }
 
     private static void faults1() {
-        promise = "fault 1";
+        about = "fault 1";
         dueFault("#", 1, 0);
         dueFault("f : int = 1 >;", 1, 12);
         dueFault("f : int\t= 1;", 1, 7);
@@ -328,7 +215,7 @@ public final class PromisesTest {
     }
 
     private static void faults2() {
-        promise = "fault 2";
+        about = "fault 2";
         dueFault("f", 2, 1);
         dueFault("f  \n", 2, 4);
         dueFault("f : int = 1", 2, 11);
@@ -377,7 +264,7 @@ public final class PromisesTest {
     }
 
     private static void faults3() {
-        promise = "fault 3";
+        about = "fault 3";
         dueFine(nested(29, "1"), 1);
         dueFault(nested(30, "1"), 3, 40);
         dueFault(nested(31, "1"), 3, 40);
@@ -430,7 +317,7 @@ public final class PromisesTest {
     }
 
     private static void faults4() {
-        promise = "fault 4";
+        about = "fault 4";
         dueFine(functions(40), 40);
         dueFault(functions(41), 4, 400);
         dueFault(functions(40) + ";", 2, 400);
@@ -454,7 +341,7 @@ public final class PromisesTest {
     }
 
     private static void faults5() {
-        promise = "fault 5";
+        about = "fault 5";
         dueFault("f : int = 1; g : int = 1; f : int = 1;", 5, 26);
         dueFault("f (a : int) (b : int) (a : list) : int = 1;", 5, 23);
         dueFault("f (a : int) (a : int) : int = 1; f : int = 1;", 5, 13);
@@ -465,7 +352,7 @@ public final class PromisesTest {
     }
 
     private static void faults6() {
-        promise = "fault 6";
+        about = "fault 6";
         dueFault("f : int = x;", 6, 10);
         dueFault("f : int = (g) + x; g : int = 1;", 6, 16);
         dueFault("f : int = let a : int = a in a;", 6, 24);
@@ -485,7 +372,7 @@ public final class PromisesTest {
     }
 
     private static void faults7() {
-        promise = "fault 7";
+        about = "fault 7";
         dueFault("f : int = nil;", 7, 10);
         dueFault("f : list = 1;", 7, 11);
         dueFault("f : int = cons 1 nil;", 7, 10);
@@ -537,7 +424,7 @@ public final class PromisesTest {
     }
 
     private static void faults8() {
-        promise = "fault 8";
+        about = "fault 8";
         String six = "(a : int -> int -> int) (b : int -> int -> int) (c : int -> int -> list) ";
         dueFine("f " + six + "(d : int) (e : int) : int = 1;", 1);
         dueFault("g : int = 1; f " + six + "(d : int) (e : int -> int) : int = 1;", 8, 13);
@@ -551,7 +438,7 @@ public final class PromisesTest {
     }
 
     private static void promise5() {
-        promise = "promise 5";
+        about = "promise 5";
         LazyStrict x = fed("f : int = nil;");
         due("place() before compile()", x.place(), LazyStrict.NONE);
         x.compile();
@@ -569,7 +456,7 @@ public final class PromisesTest {
     }
 
     private static void promise6() {
-        promise = "promise 6";
+        about = "promise 6";
         LazyStrict x = fed(TWO);
         due("functions() before compile()", x.functions(), 0);
         x.compile();
@@ -584,7 +471,7 @@ public final class PromisesTest {
     }
 
     private static void promise7() {
-        promise = "promise 7";
+        about = "promise 7";
         String one = "g : int = 1; ";
         LazyStrict x = compiled(one + "f (a : int) (b : list -> int) (c : int -> int -> int) : list ="
             + " let u : int = let v : int = a in v + 1 in let w : list = nil in"
@@ -609,7 +496,7 @@ public final class PromisesTest {
     }
 
     private static void promise8() {
-        promise = "promise 8";
+        about = "promise 8";
         String[] bases = {"int", "list"};
         for (int a = 0; a < 2; a++) {
             for (int b = 0; b < 2; b++) {
@@ -643,7 +530,7 @@ public final class PromisesTest {
     }
 
     private static void promise9() {
-        promise = "promise 9";
+        about = "promise 9";
         LazyStrict x = compiled(TWO);
         dueValues(x, 0, "0011");
         dueValues(x, 1, "1");
@@ -666,7 +553,7 @@ public final class PromisesTest {
 
     /** Shapes of parameters, and of names with fewer atoms. */
     private static void shapes() {
-        promise = "promise 9, shapes";
+        about = "promise 9, shapes";
         dueValues(compiled("f (g : int -> int) (x : int) : int = g x;"), 0, "000111");
         dueValues(compiled("f (g : int -> list -> int) (x : int) (y : list) : int = g x y;"), 0,
             "000000010011010101111111");
@@ -690,7 +577,7 @@ public final class PromisesTest {
     }
 
     private static void promise10() {
-        promise = "promise 10";
+        about = "promise 10";
         due("rounds() before compile()", fed(TWO).rounds(), 0);
         due("rounds() of nothing", compiled("").rounds(), 1);
         due("rounds()", compiled(TWO).rounds(), 3);
@@ -707,7 +594,7 @@ public final class PromisesTest {
     }
 
     private static void promise11() {
-        promise = "promise 11";
+        about = "promise 11";
         String text = "f (x : int) : int = let a : int = x in let b : int = 1 in let c : int = a in"
             + " if c then a else b;";
         LazyStrict x = compiled(text);
@@ -736,7 +623,7 @@ public final class PromisesTest {
     }
 
     private static void promise12() {
-        promise = "promise 12";
+        about = "promise 12";
         LazyStrict x = compiled("f (a:int)(b:int)(c:int)(d:int)(e:int)(f:int)(g:int)(h:int) : int ="
             + " a + 10 * (b + 10 * (c + 10 * (d + 10 * (e + 10 * (f + 10 * (g + 10 * h))))));");
         for (int i = 1; i <= 8; i++) {
@@ -755,7 +642,7 @@ public final class PromisesTest {
     // ---------------------------------------------------------------- runs
 
     private static void promise13() {
-        promise = "promise 13";
+        about = "promise 13";
         LazyStrict x = compiled(TWO);
         due("run", x.run(1, 50000, false), 1);
         dueTold(x, "lazy", 4, 1, 1, 0, 3, 3, 0, 0, 2, 0);
@@ -783,7 +670,7 @@ public final class PromisesTest {
     }
 
     private static void wrongRuns() {
-        promise = "promise 13, wrong runs";
+        about = "promise 13, wrong runs";
         LazyStrict x = compiled("f (a : int) : int = a; g (l : list) : int = 1; h (k : int -> int) : int = 1;"
             + "i : list = cons 4 nil;");
         due("run", x.run(3, 10, false), 1);
@@ -810,7 +697,7 @@ public final class PromisesTest {
     }
 
     private static void workings() {
-        promise = "section 4";
+        about = "section 4";
         due("wraps", numbered("f : int = 2147483647 + 1;", 0), Integer.MIN_VALUE);
         due("wraps", numbered("f : int = 0 - 2147483647 - 2;", 0), Integer.MAX_VALUE);
         due("wraps", numbered("f : int = 65536 * 65537;", 0), 65536);
@@ -849,7 +736,7 @@ public final class PromisesTest {
     }
 
     private static void quickRuns() {
-        promise = "section 4, quick";
+        about = "section 4, quick";
         LazyStrict x = compiled("acc (n : int) (a : int) : int = if n = 0 then a else acc (n - 1) (a + n);"
             + "main : int = acc 30 0; lazy : int = let a : int = 1 + 2 in let b : int = error in a;"
             + "by (f : int -> int) (n : int) : int = f (n + 1); dec (n : int) : int = n - 1; up : int = by dec 4;"
@@ -876,7 +763,7 @@ public final class PromisesTest {
     }
 
     private static void functionsThatGotAtoms() {
-        promise = "section 4, functions that got atoms";
+        about = "section 4, functions that got atoms";
         LazyStrict x = compiled("sub (a : int) (b : int) (c : int) : int = a * 100 + b * 10 + c;"
             + "use (f : int -> int -> int) (n : int) : int = again (f n) 3; again (f : int -> int) (n : int) : int = f n;"
             + "m : int = use (sub 1) 2; o : int = use (sub (0 + 1)) (1 + 1);");
@@ -902,7 +789,7 @@ public final class PromisesTest {
     }
 
     private static void fullRuns() {
-        promise = "section 4, full";
+        about = "section 4, full";
         LazyStrict x = compiled("p (n : int) : int = 1;" + often("p (1 + 1)") + "m : int = c + c + c;"
             + "o : int = m + p (1 + 1);");
         due("3000 put off", x.run(4, 50000, false), 1);
@@ -948,7 +835,7 @@ public final class PromisesTest {
     }
 
     private static void promise14() {
-        promise = "promise 14";
+        about = "promise 14";
         LazyStrict x = compiled(TWO);
         for (int bad : new int[] {-1, 10, Integer.MIN_VALUE, Integer.MAX_VALUE}) {
             outside("told(" + bad + ")", () -> x.told(bad));
@@ -967,7 +854,7 @@ public final class PromisesTest {
     }
 
     private static void lists() {
-        promise = "section 4, lists";
+        about = "section 4, lists";
         LazyStrict x = compiled(UPTO + "from (n : int) : list = cons n (from (n + 1)); m : list = from 7;"
             + "bad : list = cons 1 (cons error nil); cut : list = cons 1 error; one : list = cons (1 + 1) nil;"
             + "same (l : list) : list = l; both : list = let a : int = 1 + 1 in cons a (cons a nil);");
@@ -1004,7 +891,7 @@ public final class PromisesTest {
     }
 
     private static void promise15() {
-        promise = "promise 15";
+        about = "promise 15";
         LazyStrict x = compiled(UPTO + "g : int = 1;");
         outside("element(0) before a run", () -> x.element(0));
         x.argument(-2);
