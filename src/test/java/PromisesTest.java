@@ -133,7 +133,19 @@ public final class PromisesTest extends Check {
         dueValues(x, 0, "1111");
         dueValues(x, 1, "0");
         due("parameter(0, 0, 1)", x.parameter(0, 0, 1), 0);
+        due("parameter(0, 1, 1)", x.parameter(0, 1, 1), 0);
         due("function(0, 5)", x.function(0, 5), 0);
+        x.wipe();
+        // All VALUES are 1 at once, then there are ROUNDS enough to see each of these that would stay.
+        feed(x, "f (x : int) (y : int) : int = 1; g : int = 1; h : int = 1; i : int = 1;");
+        due("compile()", x.compile(), 4);
+        dueValues(x, 0, "1111");
+        x.wipe();
+        feed(x, "f (x : int) (y : int) : int = error; g : int = error; h : int = 1; i : int = h;");
+        due("compile()", x.compile(), 4);
+        due("rounds()", x.rounds(), 3);
+        dueValues(x, 0, "0000");
+        dueValues(x, 1, "0");
         x.wipe();
         // Octets of an older text stand behind the end of the new one, and don't count.
         feed(x, "f : int = 1" + "-1".repeat(10) + "->");
@@ -160,6 +172,24 @@ public final class PromisesTest extends Check {
         due("compile()", x.compile(), 1);
         due("run", x.run(0, 10, false), 1);
         due("told(5)", x.told(5), 12);
+        greatTexts();
+    }
+
+    /** More EXPRESSIONS in all than one TEXT can have. */
+    private static void greatTexts() {
+        LazyStrict x = new LazyStrict();
+        for (int turn = 1; turn <= 3; turn++) {
+            StringBuilder text = new StringBuilder();
+            for (int f = 0; f < 20; f++) {
+                text.append("f" + f + ":int=" + turn + "+1".repeat(10) + "<1" + "+1".repeat(10) + ";");
+            }
+            feed(x, text + "g:int=let a:int=" + turn + " in a*2;");
+            due("compile() of text " + turn, x.compile(), 21);
+            due("run of text " + turn, x.run(20, 10, true), 1);
+            due("told(5) of text " + turn, x.told(5), 2 * turn);
+            due("told(9) of text " + turn, x.told(9), 1);
+            x.wipe();
+        }
     }
 
     private static void promise4() {

@@ -20,6 +20,8 @@ public final class RunEdgesTest extends Check {
         conditions();
         putOffOrNot();
         workedOnce();
+        atomsBehindThoseBefore();
+        functionsWithinFunctions();
         deepest();
         deepThroughEachPart();
         deepBeforeSpent();
@@ -28,6 +30,7 @@ public final class RunEdgesTest extends Check {
         localsFull();
         gotFull();
         fullAsItBegins();
+        eachRunBeginsAnew();
         endsOfLists();
         stepsAlongLists();
         worksAlongLists();
@@ -293,6 +296,36 @@ public final class RunEdgesTest extends Check {
         due("told(2)", y.told(2), 0);
     }
 
+    private static void atomsBehindThoseBefore() {
+        about = "A local that is a function has its ATOMS behind those that it got before";
+        StringBuilder digits = new StringBuilder("a");
+        for (int i = 1; i < 8; i++) {
+            digits.insert(0, '(').append(")*10+").append((char) ('a' + i));
+        }
+        String b = "b (a:int)(b:int)(c:int)(d:int)(e:int)(f:int)(g:int)(h:int):int=" + digits + ";";
+        String use = "two (x:int)(k:int->int->int)(y:int):int=k x y;one (x:int)(k:int->int)(y:int):int=k y;"
+            + "both (x:int)(y:int)(k:int->int->int):int=one 0 (k x) y;";
+        due("six, then two", numbered(b + use + "m:int=two 7 (b 1 2 3 4 5 6) 8;", 4), 12345678);
+        due("seven, then one", numbered(b + use + "m:int=one 0 (b 1 2 3 4 5 6 7) 8;", 4), 12345678);
+        due("six, one, one", numbered(b + use + "m:int=both 7 8 (b 1 2 3 4 5 6);", 4), 12345678);
+        due("all are PUT OFF", numbered(b + use + "m:int=both (3+4) (4+4) (b (0+1) (1+1) 3 (2+2) 5 (3+3));", 4), 12345678);
+        String s = "s (a:int)(b:int):int=a*10+b;";
+        due("none, then two", numbered(s + use + "m:int=two 7 s 8;", 4), 78);
+        due("none, one, one", numbered(s + use + "m:int=both 7 8 s;", 4), 78);
+        // A function that got ATOMS is used twice, with others behind them.
+        due("twice", numbered(s + "u (k:int->int):int=k 1*100+k 2;m:int=u (s 3);", 2), 3132);
+    }
+
+    private static void functionsWithinFunctions() {
+        about = "a NAME with fewer ATOMS is a function that got these, PUT OFF";
+        String others = "k (g : int -> int) (a : int) : int = g (a + 1); id (a : int) : int = a; use (g : int -> int) : int = g 0;";
+        for (int count = 1; count <= 29; count++) {
+            String text = others + "m : int = use " + "(k ".repeat(count) + "id" + ")".repeat(count) + ";";
+            due(count + " within one another", numbered(text, 3), count);
+        }
+        dueFaultAt(3, others + "m : int = use " + "(k ".repeat(29) + "(^k id)" + ")".repeat(29) + ";");
+    }
+
     // ---------------------------------------------------------------- depth
 
     /**
@@ -514,6 +547,15 @@ public final class RunEdgesTest extends Check {
             due("told(1): before they are PUT OFF", x.told(1), 0);
             dueRun("6000, and functions without ATOMS", x, 5, 50000, false, WELL);
         }
+        LazyStrict bare = compiled(often("t s") + "m:int=" + times(7001, "t s") + ";t (g:int->int->int):int=g 0 1;"
+            + "s (a:int)(b:int):int=b;");
+        dueRun("7001 functions without ATOMS", bare, 3, 50000, false, WELL);
+        due("told(5)", bare.told(5), 7001);
+        LazyStrict single = compiled(often("t (s 1)") + "m:int=" + times(6000, "t (s 1)") + ";n:int="
+            + times(6001, "t (s 1)") + ";t (g:int->int):int=g 2;s (a:int)(b:int):int=a*b;");
+        dueRun("6000 functions with one ATOM", single, 3, 50000, false, WELL);
+        due("told(5)", single.told(5), 12000);
+        dueRun("6001 functions with one ATOM", single, 4, 50000, false, FULL);
         about = "each the ATOMS that stand behind its NAME alone";
         // l (d 1): one behind d, one behind f; not two of the one that got both.
         LazyStrict x = compiled(often(six) + "m:int=" + times(999, six) + "+h (d 1)+h (d 1)+l (d 1)+l (d 1);n:int="
@@ -543,6 +585,25 @@ public final class RunEdgesTest extends Check {
         due("told(1)", x.told(1), 0);
         dueRun("an ATOM that DIVERGES is before it", x, 5, 50000, true, DIVERGES);
         dueRun("an ATOM that would, and is PUT OFF", x, 5, 50000, false, FULL);
+    }
+
+    /** Each run uses more than half of what one may have: nothing of one is left in the next. */
+    private static void eachRunBeginsAnew() {
+        about = "a run has all of it for itself";
+        LazyStrict got = compiled(often("t (s 1)") + "m:int=" + times(4000, "t (s 1)") + ";t (g:int->int):int=g 2;"
+            + "s (a:int)(b:int):int=a*b;");
+        LazyStrict later = compiled(often("k (cons (1+1) nil)") + "m:int=" + times(1400, "k (cons (1+1) nil)")
+            + ";k (l:list):int=case l of empty->0|h:t->h;");
+        LazyStrict wide = compiled(often("w 1") + "m:int=" + times(900, "w 1") + ";w (n:int):int="
+            + "let a:int=n in ".repeat(29) + "a;");
+        for (int turn = 0; turn < 4; turn++) {
+            dueRun("functions with fewer ATOMS", got, 3, 50000, turn % 2 == 1, WELL);
+            due("told(5)", got.told(5), 8000);
+            dueRun("what is PUT OFF, and CELLS", later, 3, 50000, false, WELL);
+            dueTold(later, "what is PUT OFF, and CELLS", later.told(0), 2800, 0, 1400, later.told(4), 2800);
+            dueRun("locals", wide, 3, 50000, false, WELL);
+            due("told(5)", wide.told(5), 900);
+        }
     }
 
     // ---------------------------------------------------------------- lists

@@ -194,6 +194,17 @@ public final class StrictEdgesTest extends Check {
             }
             dueValues(x, 6, String.join("", SHAPES));
         }
+        // Behind ATOMS of all points and SHAPES: the same as with all ATOMS at once.
+        for (String body : bodies) {
+            LazyStrict x = compiled("t (p : int) (q : int -> int) (r : int -> int -> int) (x : int) (y : int) : int ="
+                + " if r p (q error) then " + body + " else x * p;" + use
+                + "m (p : int) (q : int -> int) (r : int -> int -> int) (x : int) (y : int) : int = two (t p q r) x y;"
+                + "n (p : int) (q : int -> int) (r : int -> int -> int) (x : int) (y : int) : int = one (t p q r x) y;");
+            for (int number = 0; number < 144; number++) {
+                due("value(3, " + number + ")", x.value(3, number), x.value(0, number));
+                due("value(4, " + number + ")", x.value(4, number), x.value(0, number));
+            }
+        }
         // Behind ATOMS that are functions themselves.
         dueValues(compiled("k (g : int -> int) (h : int -> int -> int) (x : int) (y : int) : int = h (g x) y;" + use
             + "add (x : int) (y : int) : int = x + y; yes (x : int) : int = 1; no (x : int) : int = error;"
@@ -352,5 +363,13 @@ public final class StrictEdgesTest extends Check {
         }
         outside("function(-1, 0)", () -> x.function(-1, 0));
         outside("function(3, 0)", () -> x.function(3, 0));
+        // The first and the last EXPRESSION of a FUNCTION are its own.
+        LazyStrict y = compiled("f : int = 1; g : int = let a : int = 1 in a; h : int = 1; i : int = let a : int = 1 in 2;");
+        int[] lets = {0, 1, 0, 1};
+        int[] strict = {0, 1, 0, 0};
+        for (int f = 0; f < 4; f++) {
+            due("lets of " + f, y.function(f, 4), lets[f]);
+            due("STRICT lets of " + f, y.function(f, 5), strict[f]);
+        }
     }
 }

@@ -158,6 +158,13 @@ public final class TextEdgesTest extends Check {
             + "abcdefghijkl : int = 1; abcdefghijkm : int = 2;", 0), 21);
         dueFine("zzzzzzzzzzzz : int = 1; z99999999999 : int = 2; z9999999999z : int = 3; a : int = 4; aa : int = 5;"
             + "a0 : int = 6; a00 : int = 7;", 7);
+        for (String first : new String[] {"a", "z", "a9", "zzzzzzzzzzz"}) {
+            StringBuilder text = new StringBuilder("a:int=1;b:int=1;b0:int=1;y9:int=1;");
+            for (char letter : "abcdefghijklmnopqrstuvwxyz0123456789".toCharArray()) {
+                text.append(first).append(letter).append(":int=1;");
+            }
+            dueFine(text.toString(), 40);
+        }
     }
 
     private static void words() {
@@ -207,6 +214,10 @@ public final class TextEdgesTest extends Check {
         dueFaultAt(1, text + "^#");
         dueFaultAt(1, text + "^12;;;;;;#");
         dueFault(text.substring(0, text.length() - 1), 2, text.length() - 1);
+        // The end behind 1200 TOKENS can't stand there.
+        dueFaultAt(2, text.substring(0, text.length() - 1) + "+^");
+        dueFaultAt(2, text.substring(0, text.length() - 1) + "+ \n^");
+        dueFaultAt(1, text.substring(0, text.length() - 1) + "+^1");
         // 1200 TOKENS with a fault of their own: it is looked for behind fault 1 alone.
         dueFaultAt(2, "^;" + ";".repeat(1199));
         dueFault(";".repeat(1201), 1, 1200);
@@ -626,9 +637,9 @@ public final class TextEdgesTest extends Check {
             String g = "g" + parameters(count) + ":int=1;";
             for (int atoms = 0; atoms <= count + 1; atoms++) {
                 String call = "(^g" + " 1".repeat(atoms) + ");";
-                leftFits(one + g + "f : int = one " + call, count - atoms == 1);
-                leftFits(one + g + "f : int = two " + call, count - atoms == 2);
-                leftFits(one + g + "f : int = 0 + " + call, count - atoms == 0);
+                fits(one + g + "f : int = one " + call, 4, count - atoms == 1);
+                fits(one + g + "f : int = two " + call, 4, count - atoms == 2);
+                fits(one + g + "f : int = 0 + " + call, 4, count - atoms == 0);
             }
         }
         // The BASES count, and a PARAMETER that is a function is none.
@@ -639,6 +650,11 @@ public final class TextEdgesTest extends Check {
         dueFaultAt(7, use + "g (a : int) (b : list) : list = b; f : int = use ^g;");
         dueFaultAt(7, use + "g (a : int -> int) (b : list) : int = 1; f : int = use ^g;");
         dueFaultAt(7, use + "g (a : int) (b : int -> list) : int = 1; f : int = use ^g;");
+        for (int wanted = 2; wanted < 14; wanted++) {
+            for (int has = 2; has < 14; has++) {
+                dueLeft(wanted, has);
+            }
+        }
         String tail = "use (g : list -> int) : int = g nil; ";
         dueFine(tail + "f (k : int -> list -> int) : int = use (k 1);", 2);
         dueFaultAt(7, tail + "f (k : list -> int -> int) : int = use (^k nil);");
@@ -648,9 +664,39 @@ public final class TextEdgesTest extends Check {
         dueFaultAt(7, tail + "f (k : int -> list -> int) : int = use (k ^nil);");
     }
 
-    private static void leftFits(String marked, boolean fits) {
+    private static String base(int bit) {
+        return bit == 0 ? "int" : "list";
+    }
+
+    /** A TYPE of two or three BASES by its number. */
+    private static String type(int number) {
+        if (number < 6) {
+            return base((number - 2) / 2) + " -> " + base((number - 2) % 2);
+        }
+        return base((number - 6) / 4) + " -> " + base((number - 6) / 2 % 2) + " -> " + base((number - 6) % 2);
+    }
+
+    /** A FUNCTION, and a local, of one TYPE where another one is wanted; and a local with one ATOM. */
+    private static void dueLeft(int wanted, int has) {
+        String use = "use (g : " + type(wanted) + ") : int = 1; ";
+        String[] bases = type(has).split(" -> ");
+        StringBuilder function = new StringBuilder("k ");
+        for (int i = 0; i + 1 < bases.length; i++) {
+            function.append("(p").append(i).append(" : ").append(bases[i]).append(") ");
+        }
+        function.append(": ").append(bases[bases.length - 1]).append(" = error; ");
+        String local = "f (k : " + type(has) + ") : int = use ";
+        String given = bases[0].equals("int") ? "1" : "nil";
+        String left = type(has).substring(type(has).indexOf("->") + 3);
+        fits(use + function + "f : int = use ^k;", 3, wanted == has);
+        fits(use + local + "^k;", 2, wanted == has);
+        fits(use + function + "f : int = use (^k " + given + ");", 3, type(wanted).equals(left));
+        fits(use + local + "(^k " + given + ");", 2, type(wanted).equals(left));
+    }
+
+    private static void fits(String marked, int functions, boolean fits) {
         if (fits) {
-            dueFine(marked.replace("^", ""), 4);
+            dueFine(marked.replace("^", ""), functions);
         } else {
             dueFaultAt(7, marked);
         }
