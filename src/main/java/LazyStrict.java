@@ -9,6 +9,7 @@ public final class LazyStrict {
     private static final int MOST_OCTETS = 4000;
     private static final int MOST_TOKENS = 1200;
     private static final int MOST_LETTERS = 12;
+    private static final int GREATEST_NUMBER = 2147483647;
     private static final int MOST_FUNCTIONS = 40;
     private static final int MOST_PARAMETERS = 8;
     private static final int MOST_LOCALS = 30;
@@ -384,7 +385,7 @@ public final class LazyStrict {
                 number = Math.min(number * 10 + text.at(i) - '0', 1L << 32);
                 end = i + 1;
             }
-            if (number > Integer.MAX_VALUE) {
+            if (number > GREATEST_NUMBER) {
                 fault.tell(FAULT_TOKEN, at);
                 return end;
             }

@@ -21,7 +21,9 @@ public final class FaceTest {
         "run(int, int, boolean) throws IllegalArgumentException IndexOutOfBoundsException",
         "told(int) throws IndexOutOfBoundsException", "element(int) throws IndexOutOfBoundsException"};
     private static final String[] NOT_ALLOWED = {"catch", "import ", "Exact(", "finally", "synchronized", "assert ",
-        "System.", "Random", "Thread", "protected", "static {", "::", ") ->", "getMessage", "instanceof"};
+        "System.", "Random", "Thread", "protected", "static {", "::", ") ->", "getMessage", "instanceof",
+        // Rule 4 lists functions of Integer and Long, but none of their constants.
+        "_VALUE"};
     private static int wrong = 0;
 
     public static void main(String[] args) throws IOException {
