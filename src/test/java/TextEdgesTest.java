@@ -1,3 +1,6 @@
+import java.util.ArrayList;
+import java.util.List;
+
 /**
  * Sections 1 and 2 of the document, sentence by sentence, where one names a least or a greatest,
  * something empty or full, an end, a first or a last: the last text that is taken, and the first
@@ -14,6 +17,7 @@ public final class TextEdgesTest extends Check {
         asLongAsCanBe();
         blanks();
         names();
+        allShortNames();
         words();
         numbers();
         countOfTokens();
@@ -164,6 +168,31 @@ public final class TextEdgesTest extends Check {
                 text.append(first).append(letter).append(":int=1;");
             }
             dueFine(text.toString(), 40);
+        }
+    }
+
+    /** Texts with all pairs of NAMES that have one or two letters: none of them is another one's. */
+    private static void allShortNames() {
+        about = "a FUNCTION with the NAME of one before it";
+        List<String> names = new ArrayList<>();
+        for (char first = 'a'; first <= 'z'; first++) {
+            names.add("" + first);
+            for (char second : "abcdefghijklmnopqrstuvwxyz0123456789".toCharArray()) {
+                names.add("" + first + second);
+            }
+        }
+        names.removeAll(List.of(WORDS));
+        for (int i = 0; i < names.size(); i += 20) {
+            for (int k = i + 20; k < names.size(); k += 20) {
+                StringBuilder text = new StringBuilder();
+                for (int n = 0; n < 20; n++) {
+                    text.append(names.get(i + n)).append(":int=1;");
+                }
+                for (int n = k; n < k + 20 && n < names.size(); n++) {
+                    text.append(names.get(n)).append(":int=1;");
+                }
+                due("compile() of " + text, fed(text.toString()).compile(), Math.min(40, 20 + names.size() - k));
+            }
         }
     }
 
